@@ -4,6 +4,8 @@ import java.util.Random;
 /** All calls of a run live in one room: the dearest ones make no rows, and no arguments make one throw. */
 public final class RoomTest {
     private static final Check C = new Check("RoomTest");
+    private static final com.sun.management.ThreadMXBean BEAN =
+        (com.sun.management.ThreadMXBean) ManagementFactory.getThreadMXBean();
     private static final int[] ODD = {Integer.MIN_VALUE, -101, -100, -1, 0, 1, 2, 3, 7, 8, 9, 10, 20, 21, 31, 99, 100,
         101, 300, 301, 9999, 10000, Integer.MAX_VALUE};
     private static final long[] ODD_LONGS = {Long.MIN_VALUE, -1, 0, 1, 10, 1000, Check.MOST - 1, Check.MOST,
@@ -18,8 +20,7 @@ public final class RoomTest {
     }
 
     private static long allocated() {
-        return ((com.sun.management.ThreadMXBean) ManagementFactory.getThreadMXBean())
-            .getThreadAllocatedBytes(Thread.currentThread().getId());
+        return BEAN.getThreadAllocatedBytes(Thread.currentThread().getId());
     }
 
     private static MeltingMarks full() {
@@ -66,6 +67,7 @@ public final class RoomTest {
 
     private static void textsFit() {
         MeltingMarks x = new MeltingMarks();
+        Check.tell(x, 0, "debt 1;rent 0;wage 0;");
         Check.feedAll(x, "debt 1+1+1+1+1+1+1+1+1+1+1+1+1+1+1+1+1+1+1+1+1+1+1+1+1+1+1+1+1+1+1+1+1+1+1+1;rent 0;wage 0;");
         long before = allocated();
         long answer = x.text(0);
