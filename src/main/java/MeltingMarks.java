@@ -182,7 +182,7 @@ public final class MeltingMarks {
         if (!now.papers[paper].isOpen()) {
             return found(NONE);
         }
-        return now.owedOf(now.papers[paper], court);
+        return ruling(now.papers[paper], court);
     }
 
     public long pay(int paper) {
@@ -196,7 +196,7 @@ public final class MeltingMarks {
         if (paid.kind == KIND_RENT || paid.kind == KIND_WAGE || !now.hasPerson(paid.by)) {
             return found(KIND);
         }
-        long sum = now.owedOf(paid, 0);
+        long sum = ruling(paid, 0);
         if (now.persons[paid.by].marks < sum) {
             return found(LOW);
         }
@@ -280,7 +280,7 @@ public final class MeltingMarks {
     public long unlike() {
         for (int i = 0; i < now.written; i++) {
             Paper ruled = now.papers[i];
-            if (ruled.isOpen() && now.owedOf(ruled, 0) != now.owedOf(ruled, 1)) {
+            if (ruled.isOpen() && ruling(ruled, 0) != ruling(ruled, 1)) {
                 return i;
             }
         }
@@ -296,7 +296,9 @@ public final class MeltingMarks {
         if (now.day + n > LAST_DAY) {
             return found(FULL);
         }
-        now.goDays(n);
+        for (int i = 0; i < n; i++) {
+            now.goDay();
+        }
         return now.priceOn(now.day);
     }
 
@@ -380,7 +382,8 @@ public final class MeltingMarks {
         if (now.day + n > LAST_DAY) {
             return found(FULL);
         }
-        lookout.choose(now, n);
+        lookout.beginSearch(now);
+        lookout.search(0, n, 0);
         if (what == 0) {
             return lookout.bestNumber;
         }
@@ -489,6 +492,10 @@ public final class MeltingMarks {
     private long found(long finding) {
         findings++;
         return finding;
+    }
+
+    private long ruling(Paper paper, int court) {
+        return now.judge.rule(now, paper, court);
     }
 
     private static boolean within(long v, long least, long most) {
@@ -698,19 +705,15 @@ public final class MeltingMarks {
 
         static long join(int step, long a, long b) {
             switch (step) {
-                case KEY_OR: return truth(a != 0 || b != 0);
-                case KEY_AND: return truth(a != 0 && b != 0);
-                case SIGN_LESS: return truth(a < b);
-                case SIGN_SAME: return truth(a == b);
+                case KEY_OR: return a != 0 || b != 0 ? 1 : 0;
+                case KEY_AND: return a != 0 && b != 0 ? 1 : 0;
+                case SIGN_LESS: return a < b ? 1 : 0;
+                case SIGN_SAME: return a == b ? 1 : 0;
                 case SIGN_PLUS: return a + b;
                 case SIGN_MINUS: return a - b;
                 case SIGN_TIMES: return a * b;
                 default: return b == 0 ? 0 : a / b;
             }
-        }
-
-        static long truth(boolean holds) {
-            return holds ? 1 : 0;
         }
     }
 
@@ -961,11 +964,6 @@ public final class MeltingMarks {
             }
             return -1;
         }
-
-        Code codeOn(int court, int day) {
-            int number = latest(court, day);
-            return number < 0 ? null : codes[number];
-        }
     }
 
     /** Says what is OWED; its rows are used again for each ruling. */
@@ -980,12 +978,13 @@ public final class MeltingMarks {
             if (paper.kind == KIND_GOLD) {
                 return goldIn(paper.sum, world.priceOn(world.day));
             }
-            Code code = world.laws.codeOn(court, world.day);
-            if (code == null) {
+            int number = world.laws.latest(court, world.day);
+            if (number < 0 || world.laws.codes[number] == null) {
                 return paper.sum;
             }
             fillNames(world, paper);
-            return Math.max(0, Math.min(MOST, code.run(paper.kind, names, waiting)));
+            long v = world.laws.codes[number].run(paper.kind, names, waiting);
+            return Math.max(0, Math.min(MOST, v));
         }
 
         /** The quotient is asked first, as the product may not fit a long. */
@@ -1133,23 +1132,23 @@ public final class MeltingMarks {
 
         /** 1 at least, always: it is a divisor. */
         long priceOn(int when) {
-            return when >= 0 && when <= LAST_DAY ? Math.max(1, prices[when]) : 1;
-        }
-
-        long owedOf(Paper paper, int court) {
-            return judge.rule(this, paper, court);
+            return when >= 0 && when <= LAST_DAY && prices[when] > 1 ? prices[when] : 1;
         }
 
         void credit(Person person, long n) {
-            long sum = person.marks + n;
-            person.marks = Math.min(MOST, sum);
-            burnt += sum - person.marks;
+            person.marks += n;
+            if (person.marks > MOST) {
+                burnt += person.marks - MOST;
+                person.marks = MOST;
+            }
         }
 
         void creditState(long n) {
-            long sum = state + n;
-            state = Math.min(MOST, sum);
-            burnt += sum - state;
+            state += n;
+            if (state > MOST) {
+                burnt += state - MOST;
+                state = MOST;
+            }
         }
 
         void handOver(Paper paper, long n) {
@@ -1192,12 +1191,6 @@ public final class MeltingMarks {
             buyer.marks -= n * price;
         }
 
-        void goDays(int n) {
-            for (int i = 0; i < n; i++) {
-                goDay();
-            }
-        }
-
         void goDay() {
             if (day >= LAST_DAY) {
                 return;
@@ -1218,7 +1211,7 @@ public final class MeltingMarks {
             for (int i = 0; i < written; i++) {
                 Paper paper = papers[i];
                 if (paper.kind == KIND_WAGE && paper.isOpen() && hasPerson(paper.to)) {
-                    long wage = owedOf(paper, 0);
+                    long wage = judge.rule(this, paper, 0);
                     long lack = Math.max(0, wage - state);
                     printed += lack;
                     state -= wage - lack;
@@ -1231,7 +1224,7 @@ public final class MeltingMarks {
             for (int i = 0; i < written; i++) {
                 Paper paper = papers[i];
                 if (paper.isOpen() && paper.isPayDay(day) && hasPerson(paper.by)) {
-                    payAsFarAsItGoes(paper);
+                    payAsFarAsItGoes(paper, judge.rule(this, paper, 0));
                 }
                 if (paper.isOpen() && paper.endsOn(day)) {
                     paper.state = STATE_PAID;
@@ -1239,8 +1232,7 @@ public final class MeltingMarks {
             }
         }
 
-        private void payAsFarAsItGoes(Paper paper) {
-            long owes = owedOf(paper, 0);
+        private void payAsFarAsItGoes(Paper paper, long owes) {
             long paid = Math.min(owes, persons[paper.by].marks);
             handOver(paper, paid);
             if (paper.isPaidAtOnce() && paid == owes) {
@@ -1347,7 +1339,9 @@ public final class MeltingMarks {
         long printedIn(World now, int n) {
             World world = worlds[0];
             world.takeMoving(now);
-            world.goDays(n);
+            for (int i = 0; i < n; i++) {
+                world.goDay();
+            }
             return world.printed - now.printed;
         }
 
@@ -1368,7 +1362,9 @@ public final class MeltingMarks {
             World world = worlds[0];
             world.takeMoving(now);
             world.credit(world.persons[person], gift);
-            world.goDays(n);
+            for (int i = 0; i < n; i++) {
+                world.goDay();
+            }
             return world.priceOn(world.day);
         }
 
@@ -1384,11 +1380,10 @@ public final class MeltingMarks {
             return world.hungerOfAll() - now.hungerOfAll();
         }
 
-        void choose(World now, int n) {
+        void beginSearch(World now) {
             worlds[0].takeMoving(now);
             hungerBefore = now.hungerOfAll();
             bestNumber = -1;
-            search(0, n, 0);
         }
 
         private void search(int depth, int n, int number) {

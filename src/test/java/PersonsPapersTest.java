@@ -8,6 +8,7 @@ public final class PersonsPapersTest {
         habit();
         personIs();
         gain();
+        noGainByOtherKinds();
         gainIsNoFinding();
         paper();
         paperFindingsInOrder();
@@ -143,6 +144,19 @@ public final class PersonsPapersTest {
         C.due("loss of both", x.gain(1, true), 9);
         C.due("gain 2", x.gain(2, false), Check.BEYOND);
         C.due("gain -1", x.gain(-1, true), Check.BEYOND);
+    }
+
+    private static void noGainByOtherKinds() {
+        MeltingMarks x = Check.ofPrices();
+        x.paper(0, 1, 7, 300);
+        x.paper(5, 1, 8, 300);
+        Check.goOn(x, 10);
+        x.press(10);
+        x.give(0, 10);
+        C.due("pay a paper", x.pay(0), 7);
+        C.due("pay a town's note", x.pay(1), 8);
+        C.due("no gain", x.gain(0, false), 0);
+        C.due("no loss", x.gain(1, true), 0);
     }
 
     private static void gainIsNoFinding() {

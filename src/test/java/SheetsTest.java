@@ -212,6 +212,15 @@ public final class SheetsTest {
             C.due("price(" + day + ")", x.price(day), want[day]);
         }
         C.due("price(4)", x.price(4), Check.BEYOND);
+        for (int day = 3; day < 300; day += 27) {
+            x.days(27);
+        }
+        C.due("the last day", x.image(), 300);
+        x.swap(1);
+        C.due("cut", x.price(300), 20);
+        x.restore();
+        C.due("price(300)", x.price(300), 200);
+        C.due("price(299)", x.price(299), 200);
     }
 
     /** Who sold, bought, hungered, gained and lost is anew in a person that takes such a one's number. */
@@ -223,8 +232,12 @@ public final class SheetsTest {
         x.person(0, 0, 0);
         x.paper(1, 1, 5, 0);
         x.paper(1, 100, 7, 0);
+        Check.tell(x, 0, "debt 3;rent 0;wage 0;");
+        x.force(0, 0, 0);
         x.days(2);
         C.holds("sold", x.personIs(0, 6) > 0 && x.personIs(1, 7) > 0 && x.personIs(2, 5) == 2);
+        C.due("gain", x.gain(0, false), 2);
+        C.due("loss", x.gain(0, true), 4);
         x.restore();
         for (int i = 0; i < 3; i++) {
             C.due("person", x.person(0, 0, 0), i);

@@ -57,6 +57,12 @@ public final class TextsLawsTest {
         C.due("its rent", x.owed(1, 0), 5);
         C.due("its wage", x.owed(2, 0), 6);
         C.due("a fault is no finding", x.count(9), 2);
+        C.due("letters", Check.tell(x, 0, "zzzzzzzzzz"), 0);
+        C.due("not read behind the end", Check.tell(x, 0, "debt"), 4);
+        C.due("digits", Check.tell(x, 0, "9999999999"), 0);
+        C.due("not read behind the end", Check.tell(x, 0, "debt 1"), 6);
+        C.due("blanks", Check.tell(x, 0, "          "), 10);
+        C.due("not read behind the end", Check.tell(x, 0, "debt 1"), 6);
     }
 
     private static void faultsOfClauses() {
