@@ -101,36 +101,29 @@ public final class AheadTest {
 
     private static void choicesOfAllWays() {
         for (int kind = 0; kind < 4; kind++) {
-            MeltingMarks x = kind == 0 ? busy() : poor(kind);
             for (int n = 1; n <= 8; n++) {
                 if (kind < 2 || n < 6) {
-                    compareWays(x, n);
+                    compareWays(kind, n);
                 }
             }
         }
     }
 
-    private static void compareWays(MeltingMarks x, int n) {
-        long[] told = {x.choices(n, 0), x.choices(n, 1), x.choices(n, 2)};
+    /** Each way is gone by an object of its own, made by the same calls. */
+    private static void compareWays(int kind, int n) {
         long bestHunger = -1;
         long bestPrice = 0;
         int best = 0;
-        x.image();
-        long before = hunger(x);
-        // An object is good for 512 calls, so that each way asks an object of its own by the same calls.
         for (int way = 0; way < 1 << n; way++) {
-            MeltingMarks y = x;
-            if (n > 3) {
-                y = again(x);
-            }
+            MeltingMarks y = busyOrPoor(kind);
             for (int k = 0; k < n; k++) {
                 if ((way >> k & 1) == 1) {
                     y.tax();
                 }
                 y.days(1);
             }
-            long hunger = hunger(y) - before;
-            long price = y.price((int) y.count(3));
+            long hunger = hunger(y);
+            long price = y.price(n);
             boolean better = bestHunger < 0 || hunger < bestHunger
                 || hunger == bestHunger && price < bestPrice
                 || hunger == bestHunger && price == bestPrice && Integer.bitCount(way) < Integer.bitCount(best);
@@ -139,18 +132,15 @@ public final class AheadTest {
                 bestPrice = price;
                 best = way;
             }
-            if (n <= 3) {
-                x.restore();
-            }
         }
-        C.due("choices(" + n + ", 0)", told[0], best);
-        C.due("choices(" + n + ", 1)", told[1], bestHunger);
-        C.due("choices(" + n + ", 2)", told[2], bestPrice);
+        MeltingMarks x = busyOrPoor(kind);
+        C.due("choices(" + n + ", 0)", x.choices(n, 0), best);
+        C.due("choices(" + n + ", 1)", x.choices(n, 1), bestHunger);
+        C.due("choices(" + n + ", 2)", x.choices(n, 2), bestPrice);
     }
 
-    /** A new object as busy() or poor() made it, told by how many papers and persons it has. */
-    private static MeltingMarks again(MeltingMarks x) {
-        return x.count(1) == 0 ? poor((int) x.count(0) - 3) : busy();
+    private static MeltingMarks busyOrPoor(int kind) {
+        return kind == 0 ? busy() : poor(kind);
     }
 
     /** Only with a TAX can person 0 pay for a loaf: 99 by 10 and not 109 by 10. */

@@ -79,7 +79,7 @@ public final class RoomTest {
         Random random = new Random(5);
         for (int run = 0; run < 300; run++) {
             MeltingMarks x = run % 3 == 0 ? new MeltingMarks() : full();
-            for (int call = 0; call < 600; call++) {
+            for (int call = 0; call < 390; call++) {
                 int a = ODD[random.nextInt(ODD.length)];
                 int b = ODD[random.nextInt(ODD.length)];
                 int c = ODD[random.nextInt(ODD.length)];
