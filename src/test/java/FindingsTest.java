@@ -1,4 +1,5 @@
-import java.util.List;
+import java.util.HashMap;
+import java.util.Map;
 
 /**
  * Each finding of each promise: the first value that is refused on each side, beside the last one that
@@ -9,10 +10,6 @@ public final class FindingsTest {
     private static final long MOST = Check.MOST;
     private static final int LEAST_INT = Integer.MIN_VALUE;
     private static final int MOST_INT = Integer.MAX_VALUE;
-
-    private interface Call {
-        long on(MeltingMarks x);
-    }
 
     public static void main(String[] args) {
         scenesAreAsTold();
@@ -51,18 +48,20 @@ public final class FindingsTest {
     }
 
     /** The call answers the finding, count(9) is one more, and all else is as in an object that was not called. */
-    private static void refused(Scene scene, String call, long finding, Call of) {
-        MeltingMarks x = scene.make();
-        MeltingMarks untouched = scene.make();
-        C.due(scene + ": " + call, of.on(x), finding);
-        C.due(scene + ": count(9) behind " + call, x.count(9), untouched.count(9) + 1);
-        List<Long> got = Scene.allOf(x);
-        List<Long> want = Scene.allOf(untouched);
-        C.holds(scene + ": nothing changed by " + call + ": " + got + " and " + want, got.equals(want));
+    private static void refused(Scene scene, String call, long finding, Witness.Call of) {
+        C.due(scene + ": " + call, of.on(scene.make()), finding);
+        unchanged(scene + ": " + call, Witness.untouched(scene), Witness.after(scene, of));
+    }
+
+    private static void unchanged(String call, Map<String, Long> before, Map<String, Long> now) {
+        Map<String, Long> want = new HashMap<>(before);
+        want.put("findings", before.get("findings") + 1);
+        Map<String, String> unlike = Witness.unlike(want, now);
+        C.holds(call + " changed " + unlike, unlike.isEmpty());
     }
 
     /** The call answers what is due, and that is no finding. */
-    private static void allowed(Scene scene, String call, long want, Call of) {
+    private static void allowed(Scene scene, String call, long want, Witness.Call of) {
         MeltingMarks x = scene.make();
         long before = x.count(9);
         C.due(scene + ": " + call, of.on(x), want);
@@ -446,13 +445,9 @@ public final class FindingsTest {
     }
 
     /** As refused, where some days go by ahead of what is refused. */
-    private static void refused(Scene scene, String call, long finding, Call of, int days) {
-        MeltingMarks x = scene.make();
-        MeltingMarks untouched = scene.make();
-        untouched.days(days);
-        C.due(scene + ": " + call, of.on(x), finding);
-        C.due(scene + ": count(9) behind " + call, x.count(9), untouched.count(9) + 1);
-        C.holds(scene + ": nothing changed by " + call, Scene.allOf(x).equals(Scene.allOf(untouched)));
+    private static void refused(Scene scene, String call, long finding, Witness.Call of, int days) {
+        C.due(scene + ": " + call, of.on(scene.make()), finding);
+        unchanged(scene + ": " + call, Witness.after(scene, x -> x.days(days)), Witness.after(scene, of));
     }
 
     // Promise 18. "n (1 to 30)"; "BEYOND. FULL: THE DAY would be above 300."

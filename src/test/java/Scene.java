@@ -1,12 +1,13 @@
-import java.util.ArrayList;
-import java.util.List;
-
-/** Objects in a known state, each made by the same calls again, and all that can be asked of one. */
+/** Objects in a known state, each made by the same calls again. */
 enum Scene {
     /** Nothing was called yet. */
     NEW,
     /** DAY 3: 4 persons, papers of all kinds and states, laws of both courts, sheets, a tape begun, an image. */
     RICH,
+    /** DAY 5: no two things alike, if it can be helped: laws still to come, texts told anew, another image. */
+    LIVELY,
+    /** As LIVELY, but without an image, a tape and all sheets but one. */
+    BARE,
     /** All 10 persons. */
     PERSONS,
     /** All 24 papers, of 2 persons. */
@@ -35,11 +36,24 @@ enum Scene {
     static final int TOO_MUCH = 9;
     static final int NEXT = 10;
 
+    /** The papers of LIVELY and BARE by number. */
+    static final int LIVELY_PAID = 0;
+    static final int LIVELY_PAPER = 3;
+    static final int LIVELY_DEBT = 4;
+    static final int LIVELY_GOLD = 5;
+    static final int LIVELY_RENT = 6;
+    static final int LIVELY_WAGE = 7;
+    static final int LIVELY_TOWN = 8;
+    static final int LIVELY_VOID = 9;
+    static final int LIVELY_LAST = 10;
+
     MeltingMarks make() {
         MeltingMarks x = new MeltingMarks();
         switch (this) {
             case NEW: break;
             case RICH: rich(x); break;
+            case LIVELY: lively(x, true); break;
+            case BARE: lively(x, false); break;
             case PERSONS: persons(x); break;
             case PAPERS: papers(x); break;
             case LAWS: laws(x); break;
@@ -89,6 +103,68 @@ enum Scene {
         x.days(31);
     }
 
+    private static void lively(MeltingMarks x, boolean full) {
+        x.person(1000, 20, 3);
+        x.person(500, 2, 0);
+        x.person(50, 9, 2);
+        x.person(3, 0, 0);
+        x.habit(1, 0, 7);
+        x.habit(2, 1, 30);
+        x.press(Check.MOST);
+        x.press(12);
+        x.give(0, 400);
+        Check.tell(x, 0, "debt sum*price;rent sum+1;wage sum+age;");
+        x.force(0, 1, 6);
+        Check.tell(x, 1, "debt sum+1;rent sum;wage sum+2;");
+        x.force(1, 0, 1);
+        Check.tell(x, 0, "debt sum+age+2;rent 3;wage 4;");
+        Check.tell(x, 3, "debt 31;rent 32;wage 33;");
+        x.paper(1, 1, 20, 300);
+        x.paper(2, 102, 30, 300);
+        x.paper(1, 203, 50, 300);
+        x.days(1);
+        x.pay(0);
+        x.paper(0, 1, 40, 9);
+        x.paper(1, 1, 60, 8);
+        x.paper(2, 100, 5, 30);
+        x.paper(3, 201, 7, 12);
+        x.paper(4, 3, 9, 8);
+        x.paper(5, 203, 900, 100);
+        if (full) {
+            x.image();
+            x.sheet(0, 8, 5);
+            x.put(0, 1, 1);
+            x.put(0, 3, 2);
+            x.sheet(1, 16, 3);
+            x.put(1, 0, 1);
+            x.put(1, 2, 256);
+            x.sheet(2, 32, 20);
+            x.put(2, 7, 7);
+            x.put(2, 18, 1);
+        } else {
+            x.sheet(3, 16, 4);
+            x.put(3, 2, 1);
+        }
+        x.habit(3, 2, 1);
+        x.days(3);
+        x.habit(0, 0, 6);
+        x.force(3, 0, 7);
+        x.force(3, 1, 3);
+        Check.tell(x, 2, "debt 21;rent 22;wage 23;");
+        x.give(1, 900);
+        x.pay(1);
+        x.pay(2);
+        x.paper(1, 301, 15, 200);
+        x.tear(9);
+        x.paper(1, 2, 16, 200);
+        x.days(1);
+        if (full) {
+            Check.feedAll(x, "debt 5;rent");
+            x.person(-1, 0, 0);
+            x.days(31);
+        }
+    }
+
     private static void persons(MeltingMarks x) {
         for (int i = 0; i < 10; i++) {
             x.person(10 * i, i, 1);
@@ -130,89 +206,6 @@ enum Scene {
         x.sheet(2, 8, 0);
         for (int at = 0; at < day; at += 30) {
             x.days(Math.min(30, day - at));
-        }
-    }
-
-    /** All that can be asked of an object but count(9), at the price of its state: it is of no use then. */
-    static List<Long> allOf(MeltingMarks x) {
-        List<Long> told = new ArrayList<>();
-        state(x, told);
-        sheets(x, told);
-        tapeAndTexts(x, told);
-        told.add(x.restore());
-        state(x, told);
-        return told;
-    }
-
-    /** What an IMAGE has, as far as it can be asked without a change (but for count(9)). */
-    static List<Long> stateOf(MeltingMarks x) {
-        List<Long> told = new ArrayList<>();
-        state(x, told);
-        return told;
-    }
-
-    private static void state(MeltingMarks x, List<Long> told) {
-        for (int what = 0; what < 9; what++) {
-            told.add(x.count(what));
-        }
-        for (int i = 0; i < x.count(0); i++) {
-            for (int what = 0; what < 8; what++) {
-                told.add(x.personIs(i, what));
-            }
-            told.add(x.gain(i, false));
-            told.add(x.gain(i, true));
-        }
-        long papers = x.count(1);
-        for (int i = 0; i < papers; i++) {
-            for (int what = 0; what < 7; what++) {
-                told.add(x.paperIs(i, what));
-            }
-            if (papers < 20 && x.paperIs(i, 6) == 0) {
-                told.add(x.owed(i, 0));
-                told.add(x.owed(i, 1));
-            }
-        }
-        int day = (int) x.count(3);
-        for (int d = Math.max(0, day - 6); d <= day; d++) {
-            told.add(x.price(d));
-        }
-        for (int d : new int[] {0, 2, 100, 300}) {
-            told.add(x.law(0, d));
-            told.add(x.law(1, d));
-        }
-        told.add(x.thin());
-        told.add(x.unlike());
-    }
-
-    /** How many numbers, of how many bits, and which of them are neither 0 nor 1. */
-    private static void sheets(MeltingMarks x, List<Long> told) {
-        for (int s = 0; s < 4; s++) {
-            for (int n : new int[] {1, 2, 3, 4, 5, 6, 19, 20}) {
-                told.add(x.copy(s, 0, s, 0, n));
-            }
-            long place = x.proves(9999, s);
-            for (int i = 0; i < 4 && place >= 0 && x.put(s, (int) place, 0) == 0; i++) {
-                told.add(place);
-                place = x.proves(9999, s);
-            }
-            told.add(place);
-            for (int v : new int[] {256, 65536}) {
-                x.put(s, 0, v);
-                told.add(x.proves(9999, s));
-            }
-        }
-    }
-
-    /** The tape is read to its end as text 4; each text is told by a law of court 1 for paper 1, if there is room. */
-    private static void tapeAndTexts(MeltingMarks x, List<Long> told) {
-        told.add(x.feed(1, ' '));
-        told.add(x.feed(2, '6' | ';' << 8));
-        told.add(Check.feedAll(x, "wage 7;"));
-        told.add(x.text(4));
-        int day = (int) x.count(3);
-        for (int t = 0; t < 5; t++) {
-            told.add(x.force(t, 1, day));
-            told.add(x.owed(DEBT, 1));
         }
     }
 }

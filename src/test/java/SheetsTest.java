@@ -266,6 +266,21 @@ public final class SheetsTest {
         C.due("sheets stay", x.proves(0, 1), -1);
         C.due("the tape stays", x.text(0), -1);
         C.due("findings stay", x.count(9), 2);
+        MeltingMarks y = new MeltingMarks();
+        y.image();
+        for (int s = 0; s < 4; s++) {
+            y.sheet(s, 16, 5);
+            y.put(s, 1 + s, 3);
+        }
+        y.restore();
+        for (int s = 0; s < 4; s++) {
+            C.due("sheet " + s + " stays", y.proves(0, s), 1 + s);
+            y.sheet(s, 0, 0);
+        }
+        y.restore();
+        for (int s = 0; s < 4; s++) {
+            C.due("sheet " + s + " stays MISSING", y.proves(0, s), Check.MISSING);
+        }
     }
 
     private static void count() {

@@ -1,4 +1,4 @@
-import java.util.List;
+import java.util.Map;
 
 /** The sentences of 'Terms' that name a bound, each by the last value on either side of it. */
 public final class TermsTest {
@@ -15,6 +15,7 @@ public final class TermsTest {
         offers();
         keepOnDayOne();
         keptBackLeavesOthers();
+        whoKeepsBackAsks();
         priceAtMost();
         nobodyOffers();
         soldOut();
@@ -257,6 +258,22 @@ public final class TermsTest {
         C.due("bought", x.personIs(2, 7), 3);
     }
 
+    // 3 (3): "Each PERSON ASKS", the one that OFFERS none, too.
+    private static void whoKeepsBackAsks() {
+        MeltingMarks x = new MeltingMarks();
+        x.person(0, 6, 0);
+        x.person(70, 8, 0);
+        x.habit(1, 0, 0);
+        x.habit(1, 1, 0);
+        C.due("nothing ASKED", x.days(1), 1);
+        x.habit(1, 0, 10);
+        // Person 1 keeps its 7 back: 70 by the 4 of person 0.
+        C.due("price", x.days(1), 17);
+        C.due("bought by who keeps back", x.personIs(1, 7), 4);
+        C.due("sold by it", x.personIs(1, 6), 0);
+        C.due("marks", x.personIs(1, 0), 2);
+    }
+
     // 3 (3): "1 at least, MOST at most".
     private static void priceAtMost() {
         C.due("below most", market(2, MOST - 1).days(1), MOST - 1);
@@ -368,6 +385,13 @@ public final class TermsTest {
         long[] then = {1, 1, 2, 0, 1};
         for (int i = 0; i < 5; i++) {
             C.due("hunger of " + i, x.personIs(i, 5), then[i]);
+        }
+        for (int i = 0; i < 5; i++) {
+            x.habit(i, 2, 1);
+        }
+        x.days(2);
+        for (int i = 0; i < 5; i++) {
+            C.due("who eats has HUNGERED for as many days as before", x.personIs(i, 5), then[i]);
         }
     }
 
@@ -899,7 +923,7 @@ public final class TermsTest {
         x.pay(Scene.GOLD);
         C.holds("all four are unlike", x.gain(0, false) != 0 && x.gain(0, false) != x.gain(0, true)
             && x.personIs(0, 6) != x.personIs(0, 7) && x.personIs(3, 5) > 0);
-        List<Long> told = Scene.stateOf(x);
+        Map<String, Long> told = Witness.stateOf(x);
         C.due("image", x.image(), 3);
         x.habit(0, 0, 1);
         x.habit(0, 1, 2);
@@ -914,7 +938,7 @@ public final class TermsTest {
         x.press(77);
         C.holds("all went on", x.count(3) == 12 && x.count(0) == 5 && x.count(7) > 0);
         C.due("restore", x.restore(), 3);
-        List<Long> back = Scene.stateOf(x);
-        C.holds("as it was: " + back + " and " + told, back.equals(told));
+        Map<String, Long> back = Witness.stateOf(x);
+        C.holds("as it was: " + Witness.unlike(told, back), back.equals(told));
     }
 }

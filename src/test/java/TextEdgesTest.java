@@ -398,6 +398,8 @@ public final class TextEdgesTest {
         value("(" + least + "-1)*2+2", 0);
         value("(" + least + "-1)*2+9", 7);
         value("(" + least + "+1)*2", 2);
+        value("(65536*65536+1)*(65536*65536+1)", 8589934593L);
+        value("(0-65536*65536-1)*(65536*65536+1)+65536*65536*2+7", 6);
         value(least + "/(0-1)<0", 1);
         value("sum*65536*65536*65536*65536+sum", 50);
     }
@@ -435,6 +437,20 @@ public final class TextEdgesTest {
         C.due("owed by text 4", x.owed(0, 0), 99);
         C.due("law", x.force(3, 0, 0), 6);
         C.due("text 3 stays", x.owed(0, 0), 13);
+        MeltingMarks y = persons();
+        for (int kind = 1; kind < 5; kind++) {
+            y.paper(kind, 1, 50, 300);
+        }
+        String[] longer = {"debt 1;rent 1;wage not 1;", "debt 1+1+1+1;rent 5*(6-3);wage not not not 8 and not 9;",
+            "debt not 7;rent not 7;wage not 7+1 or 0;"};
+        for (String text : longer) {
+            Check.tell(y, 0, text);
+            Check.tell(y, 0, "debt 1;rent 2;wage 3;");
+            y.force(0, 0, 0);
+            C.due("nothing of a longer one stays: debt", y.owed(0, 0), 1);
+            C.due("nothing of a longer one stays: rent", y.owed(2, 0), 2);
+            C.due("nothing of a longer one stays: wage", y.owed(3, 0), 3);
+        }
     }
 
     // Promise 15: "(as it is then)"; promise 14: "with a FAULT .. TEXT t stays", THE TAPE "is empty then".
