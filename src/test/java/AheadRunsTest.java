@@ -7,6 +7,8 @@ import java.util.Random;
 public final class AheadRunsTest {
     private static final Check C = new Check("AheadRunsTest");
     private static final int MARKETS = 150;
+    /** Of the best ways there, 6 and 9 or such: the least is neither the one with the earliest nor the latest TAXES. */
+    private static final int[] TIES = {318, 1030, 1149, 1206, 1323, 1519, 1848, 2172};
 
     public static void main(String[] args) {
         for (int number = 0; number < MARKETS; number++) {
@@ -21,6 +23,11 @@ public final class AheadRunsTest {
                 melts(x, number, 1 + random.nextInt(30));
                 beside(x, number, random);
             }
+        }
+        for (int number : TIES) {
+            MeltingMarks x = make(number);
+            choices(x, number, 4);
+            choices(x, number, 5);
         }
         numbersOfLaterDays();
         C.end();

@@ -51,6 +51,14 @@ public final class FindingsTest {
     private static void refused(Scene scene, String call, long finding, Witness.Call of) {
         C.due(scene + ": " + call, of.on(scene.make()), finding);
         unchanged(scene + ": " + call, Witness.untouched(scene), Witness.after(scene, of));
+        for (Scene other : new Scene[] {Scene.LIVELY, Scene.BARE}) {
+            MeltingMarks x = other.make();
+            long before = x.count(9);
+            of.on(x);
+            if (x.count(9) > before) {
+                unchanged(other + ": " + call, Witness.untouched(other), Witness.after(other, of));
+            }
+        }
     }
 
     private static void unchanged(String call, Map<String, Long> before, Map<String, Long> now) {
@@ -174,7 +182,7 @@ public final class FindingsTest {
         for (int kind : new int[] {-1, 6, LEAST_INT, MOST_INT}) {
             refused(Scene.RICH, "paper of kind " + kind, Check.BEYOND, x -> x.paper(kind, 1, 5, 9));
         }
-        allowed(Scene.END, "due on the last day", 0, x -> x.paper(0, 1, 5, 300));
+        allowed(Scene.END, "due on the last day", 3, x -> x.paper(0, 1, 5, 300));
         refused(Scene.END, "due ahead of it", Check.BEYOND, x -> x.paper(0, 1, 5, 299));
         refused(Scene.END, "due behind it", Check.BEYOND, x -> x.paper(0, 1, 5, 301));
     }
@@ -192,8 +200,8 @@ public final class FindingsTest {
                 }
                 allowed(Scene.RICH, "who 3", Scene.NEXT, x -> x.paper(kind, 3, 5, 9));
                 allowed(Scene.RICH, "who 300", Scene.NEXT, x -> x.paper(kind, 300, 5, 9));
-                allowed(Scene.PERSONS, "who 908", 0, x -> x.paper(kind, 908, 5, 9));
-                allowed(Scene.PERSONS, "who 809", 0, x -> x.paper(kind, 809, 5, 9));
+                allowed(Scene.PERSONS, "who 908", 2, x -> x.paper(kind, 908, 5, 9));
+                allowed(Scene.PERSONS, "who 809", 2, x -> x.paper(kind, 809, 5, 9));
                 refused(Scene.PERSONS, "who 1009", Check.BEYOND, x -> x.paper(kind, 1009, 5, 9));
                 refused(Scene.PERSONS, "who 910", Check.BEYOND, x -> x.paper(kind, 910, 5, 9));
             }
@@ -504,7 +512,10 @@ public final class FindingsTest {
             refused(Scene.RICH, "person ahead of low " + p, Check.BEYOND, x -> x.give(p, MOST));
         }
         refused(Scene.NEW, "give to nobody", Check.BEYOND, x -> x.give(0, 1));
-        refused(Scene.END, "the state has nothing", Check.LOW, x -> x.give(0, 1));
+        refused(Scene.END, "the most on the last day", Check.LOW, x -> x.give(0, MOST));
+        MeltingMarks poor = new MeltingMarks();
+        poor.person(0, 0, 0);
+        C.due("the state has nothing", poor.give(0, 1), Check.LOW);
         refused(Scene.RICH, "the most", Check.LOW, x -> x.give(0, MOST));
         refused(Scene.RICH, "one more than it has", Check.LOW, x -> x.give(0, x.count(4) + 1));
         allowed(Scene.RICH, "all that it has", 0, x -> {
@@ -691,7 +702,7 @@ public final class FindingsTest {
     // Promise 34. "NONE: there is none."
     private static void restore() {
         refused(Scene.NEW, "restore", Check.NONE, x -> x.restore());
-        refused(Scene.PERSONS, "restore", Check.NONE, x -> x.restore());
+        refused(Scene.BARE, "restore", Check.NONE, x -> x.restore());
         allowed(Scene.RICH, "restore", 0, x -> x.restore());
         allowed(Scene.NEW, "image", 0, x -> x.image());
         allowed(Scene.NEW, "restore", 0, x -> {

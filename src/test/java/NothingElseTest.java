@@ -25,6 +25,7 @@ public final class NothingElseTest {
             paper(scene);
             pay(scene);
             tear(scene);
+            unlikeNone(scene);
             textOf(scene);
             force(scene);
             days(scene);
@@ -54,16 +55,18 @@ public final class NothingElseTest {
 
     private static void changes(String call, Map<String, Long> before, Map<String, Long> now, String... changed) {
         Map<String, Long> want = new HashMap<>(before);
+        Map<String, Long> told = new HashMap<>();
         for (String one : changed) {
             int at = one.indexOf('=');
             if (at > 0) {
-                want.put(one.substring(0, at), Long.parseLong(one.substring(at + 1)));
+                told.put(one.substring(0, at), Long.parseLong(one.substring(at + 1)));
             }
         }
+        want.putAll(told);
         Map<String, String> unlike = Witness.unlike(want, now);
         for (String one : changed) {
             if (one.indexOf('=') < 0) {
-                unlike.keySet().removeIf(name -> name.matches(one));
+                unlike.keySet().removeIf(name -> name.matches(one) && !told.containsKey(name));
             }
         }
         C.holds(call + " changed " + unlike, unlike.isEmpty());
@@ -75,22 +78,46 @@ public final class NothingElseTest {
     }
 
     private static void scenesAreAsTold() {
-        Map<String, Long> told = Witness.untouched(Scene.LIVELY);
-        String[] due = {"findings=2", "count 0=4", "count 1=11", "count 2=7", "count 3=5", "count 7=12", "gain 0=20",
-            "gain 2=49", "loss 1=20", "loss 3=49", "thin=4", "unlike=4", "restore=1", "image: count 1=9", "tape=12",
-            "tape as a text=-1", "text 2=6", "text 4=-100006", "sheet 0 number 0=1", "sheet 0 number 1=-1",
-            "sheet 0 number 3=0", "sheet 1 number 0=-1", "sheet 2 number 18=-1", "sheet 3 of 8=-100002"};
+        String[] both = {"count 0=4", "count 1=11", "count 2=7", "count 3=5", "count 7=12", "gain 0=20", "gain 1=0",
+            "gain 2=49", "gain 3=0", "loss 0=0", "loss 1=20", "loss 2=0", "loss 3=49", "thin=4", "unlike=4",
+            "count 4=" + STATE, "count 5=" + MARKS, "count 6=1000000000000012", "person 3 is 5=1"};
+        told(Scene.LIVELY, both);
+        told(Scene.BARE, both);
+        told(Scene.LIVELY, "findings=2", "restore=1", "image: count 1=9", "tape=12", "tape as a text=-1",
+            "sheet 0 number 0=1", "sheet 0 number 1=-1", "sheet 0 number 3=0", "sheet 1 number 0=-1",
+            "sheet 2 number 18=-1", "sheet 3 of 8=-100002");
+        told(Scene.BARE, "findings=1", "restore=-100006", "tape=8", "tape as a text=8", "sheet 0 number 1=-1",
+            "sheet 1 number 1=-1", "sheet 2 number 19=-1", "sheet 3 of 16=0", "sheet 3 number 2=-1");
+        // SPEND, KEEP and BAKE; kind, BY, TO, SUM, since, due and what it is; laws and texts.
+        int[][] habits = {{3, 6, 1000}, {0, 7, 1000}, {2, 5, 30}, {1, 5, 1000}};
+        int[][] papers = {{1, 0, 1, 20, 0, 300, 1}, {2, 1, 2, 30, 0, 300, 1}, {1, 2, 3, 50, 0, 300, 1},
+            {0, 0, 1, 40, 1, 9, 0}, {1, 0, 1, 60, 1, 8, 0}, {2, 1, 0, 5, 1, 30, 0}, {3, 2, 1, 7, 1, 12, 0},
+            {4, -1, 3, 9, 1, 8, 0}, {5, 2, 3, 900, 1, 100, 0}, {1, 3, 1, 15, 4, 200, 2}, {1, 0, 2, 16, 4, 200, 0}};
+        for (Scene scene : BOTH) {
+            for (int i = 0; i < habits.length; i++) {
+                for (int what = 0; what < 3; what++) {
+                    told(scene, "person " + i + " is " + (2 + what) + "=" + habits[i][what]);
+                }
+            }
+            for (int i = 0; i < papers.length; i++) {
+                for (int what = 0; what < 7; what++) {
+                    told(scene, "paper " + i + " is " + what + "=" + papers[i][what]);
+                }
+            }
+            told(scene, "law 0 on 0=-100006", "law 0 on 1=1", "law 0 on 6=1", "law 0 on 19=2", "law 1 on 1=-100006",
+                "law 1 on 2=0", "law 1 on 5=0", "law 1 on 6=3", "text 0=4", "text 1=5", "text 2=6", "text 3=7",
+                "text 4=-100006", "owed 4 by 0=61", "owed 4 by 1=2400", "later: 1 owed 4 by 1=31",
+                "later: 2 owed 4 by 0=31", "text 0 of 4=66", "text 1 of 4=61", "text 2 of 4=21", "text 3 of 4=31");
+        }
+    }
+
+    private static void told(Scene scene, String... due) {
+        Map<String, Long> told = Witness.untouched(scene);
         for (String one : due) {
-            C.holds("lively: " + one, one.endsWith("=" + told.get(one.substring(0, one.indexOf('=')))));
+            int at = one.indexOf('=');
+            C.holds(scene + ": " + one + " is " + told.get(one.substring(0, at)),
+                one.substring(at + 1).equals("" + told.get(one.substring(0, at))));
         }
-        told = Witness.untouched(Scene.BARE);
-        String[] bare = {"findings=0", "restore=-100006", "tape=1", "sheet 0 of 8=-100002", "sheet 3 of 16=0",
-            "sheet 3 number 2=-1"};
-        for (String one : bare) {
-            C.holds("bare: " + one, one.endsWith("=" + told.get(one.substring(0, one.indexOf('=')))));
-        }
-        C.due("the state", told.get("count 4"), STATE);
-        C.due("marks of all", told.get("count 5"), MARKS);
     }
 
     private static void asksOfPersons(Scene scene) {
@@ -156,6 +183,13 @@ public final class NothingElseTest {
             asks(scene, "proves", x -> x.proves(0, 3));
             asks(scene, "proves", x -> x.proves(9999, 3));
         }
+        Witness.Call sheet = x -> x.sheet(1, 8, 4) + x.put(1, 2, 1);
+        Witness.Call proved = x -> x.sheet(1, 8, 4) + x.put(1, 2, 1) + x.proves(9999, 1);
+        C.due("proves", proved.on(scene.make()), 4 - 1);
+        changes(scene + ": proves", Witness.after(scene, sheet), Witness.after(scene, proved));
+        Witness.Call notProved = x -> x.sheet(1, 8, 4) + x.put(1, 2, 1) + x.habit(0, 2, 0) + x.proves(0, 1);
+        Witness.Call notAsked = x -> x.sheet(1, 8, 4) + x.put(1, 2, 1) + x.habit(0, 2, 0);
+        changes(scene + ": proves not", Witness.after(scene, notAsked), Witness.after(scene, notProved));
         Witness.Call rich = x -> x.give(0, 1000000);
         Witness.Call asked = x -> {
             x.give(0, 1000000);
@@ -231,13 +265,22 @@ public final class NothingElseTest {
         }
     }
 
+    // Promise 17. "NONE": that is a finding, and nothing but count(9) changes by it.
+    private static void unlikeNone(Scene scene) {
+        Witness.Call torn = x -> x.tear(4) + x.tear(6) + x.tear(7) + x.tear(10);
+        Witness.Call asked = x -> x.tear(4) + x.tear(6) + x.tear(7) + x.tear(10) + x.unlike();
+        C.due("unlike", asked.on(scene.make()), 60 + 7 + 9 + 16 + Check.NONE);
+        Map<String, Long> before = Witness.after(scene, torn);
+        changes(scene + ": unlike", before, Witness.after(scene, asked), "findings=" + (before.get("findings") + 1));
+    }
+
     // "THE TAPE, which is empty then, is TEXT t": the laws of it stay as they are.
     private static void textOf(Scene scene) {
         long[] numbers = {4, 5, 6, 7, 8};
         for (int n = 0; n < 5; n++) {
             int t = n;
             changes(scene, "text " + t, -1, x -> {
-                Check.feedAll(x, scene == Scene.LIVELY ? " 6;wage 7;" : "debt 5;rent 6;wage 7;");
+                Check.feedAll(x, scene == Scene.LIVELY ? " 6;wage 7;" : "rent 6;wage 7;");
                 return x.text(t);
             }, "tape.*", "text " + t + "=" + numbers[t], "text " + t + " of 4=5", "text " + t + " of 6=6",
                 "text " + t + " of 7=7", "text " + t + " of 10=5", t == 3 ? "text 4 of .*" : "text 3=7");
@@ -291,7 +334,8 @@ public final class NothingElseTest {
         changes(scene, "swap", 4, x -> x.swap(1), "count 4=" + STATE / 10, "count 5=288", "count 7=" + (12 + burnt),
             "person 0 is 0=172", "person 1 is 0=35", "person 2 is 0=76", "person 3 is 0=5", "price 1=3", "price .",
             "paper 3 is 3=4", "paper 4 is 3=6", "paper 5 is 3=0", "paper 6 is 3=0", "paper 7 is 3=0", "paper 8 is 3=90",
-            "paper 10 is 3=1", ".*owed .*", "text . of .*", LATER);
+            "paper 10 is 3=1", "owed 4 by 0=7", "text 0 of 4=12", "text 1 of 4=7", "text 2 of 4=21", "text 3 of 4=31",
+            "text 0 of 7=4", "text 1 of 7=2", "text 2 of 7=23", "text 3 of 7=33", ".*owed .*", "text . of .*", LATER);
     }
 
     // "A sheet has n numbers, all 0": the other ones stay.
@@ -308,7 +352,7 @@ public final class NothingElseTest {
 
     private static void put(Scene scene) {
         int[][] all = scene == Scene.LIVELY ? new int[][] {{0, 0}, {0, 1}, {0, 4}, {1, 0}, {1, 2}, {2, 0}, {2, 18}, {2, 19}}
-            : new int[][] {{3, 0}, {3, 1}, {3, 2}, {3, 3}};
+            : new int[][] {{0, 1}, {1, 1}, {2, 19}, {3, 0}, {3, 1}, {3, 2}, {3, 3}};
         for (int[] one : all) {
             for (int v = 0; v < 3; v++) {
                 int number = v;
@@ -322,6 +366,7 @@ public final class NothingElseTest {
     private static void copy() {
         changes(Scene.LIVELY, "copy in one sheet", 2, x -> x.copy(0, 0, 0, 3, 2), "sheet 0 number 3=1",
             "sheet 0 number 4=-1");
+        changes(Scene.BARE, "copy in the last sheet", 2, x -> x.copy(3, 1, 3, 0, 2), "sheet 3 number 1=-1");
         changes(Scene.LIVELY, "copy none", 0, x -> x.copy(0, 0, 0, 3, 0));
         changes(Scene.LIVELY, "copy far", 2, x -> x.copy(2, 18, 2, 0, 2), "sheet 2 number 0=-1");
         for (int n = 0; n <= 4; n++) {
@@ -347,8 +392,8 @@ public final class NothingElseTest {
             int n = i;
             changes(Scene.LIVELY, "feed " + n, 11 + n, x -> x.feed(n, 0x2020202020202020L), "tape=" + (12 + n),
                 "tape and a digit=" + (14 + n), "tape and a clause=" + (21 + n));
-            changes(Scene.BARE, "feed " + n, n, x -> x.feed(n, 0x2020202020202020L), "tape=" + (1 + n),
-                "tape and a digit=" + (3 + n), "tape and a clause=" + (10 + n), "tape as a text=" + (1 + n));
+            changes(Scene.BARE, "feed " + n, 7 + n, x -> x.feed(n, 0x2020202020202020L), "tape=" + (8 + n),
+                "tape and a digit=" + (10 + n), "tape and a clause=" + (17 + n), "tape as a text=" + (8 + n));
         }
     }
 
@@ -357,9 +402,11 @@ public final class NothingElseTest {
         for (int i = 0; i < 5; i++) {
             int t = i;
             changes(Scene.LIVELY, "text with a fault", 11, x -> x.text(t), "tape=1", "tape and a digit=3",
-                "tape and a clause=10", "tape as a text=1", "tape: owed 4 by 1=31", "tape: owed 6 by 1=32",
-                "tape: owed 7 by 1=33", "tape: owed 10 by 1=31");
-            changes(Scene.BARE, "text of nothing", 0, x -> x.text(t));
+                "tape and a clause=10", "tape as a text=1", "tape: owed 4 by 1=2400", "tape: owed 6 by 1=8",
+                "tape: owed 7 by 1=13", "tape: owed 10 by 1=640");
+            changes(Scene.BARE, "text with a fault", 7, x -> x.text(t), "tape=1", "tape and a digit=3",
+                "tape and a clause=10", "tape as a text=1");
+            changes(Scene.NEW, "text of nothing", 0, x -> x.text(t));
         }
     }
 
@@ -400,10 +447,10 @@ public final class NothingElseTest {
             "text 4 of 4=31");
         MeltingMarks x = Scene.LIVELY.make();
         C.due("restore", x.restore(), 1);
-        for (int i = 0; i < 5; i++) {
-            x.days(1);
+        for (int i = 0; i < 7; i++) {
             C.due("law of court 0 on " + x.count(3), x.owed(Scene.LIVELY_RENT, 0), 7);
-            C.due("law of court 1 on " + x.count(3), x.owed(Scene.LIVELY_RENT, 1), x.count(3) < 6 ? 7 : 8);
+            C.due("law of court 1 on " + x.count(3), x.owed(Scene.LIVELY_RENT, 1), x.count(3) < 2 ? 7 : 8);
+            x.days(1);
         }
     }
 }

@@ -6,7 +6,7 @@ enum Scene {
     RICH,
     /** DAY 5: no two things alike, if it can be helped: laws still to come, texts told anew, another image. */
     LIVELY,
-    /** As LIVELY, but without an image, a tape and all sheets but one. */
+    /** As LIVELY, but without an image, and with another tape and other sheets. */
     BARE,
     /** All 10 persons. */
     PERSONS,
@@ -97,7 +97,8 @@ enum Scene {
         x.sheet(1, 16, 3);
         x.put(1, 1, 1);
         x.sheet(2, 32, 20);
-        x.put(2, 19, 7);
+        x.put(2, 18, 7);
+        x.put(2, 19, 1);
         Check.feedAll(x, "debt 5;rent");
         x.person(-1, 0, 0);
         x.days(31);
@@ -114,7 +115,7 @@ enum Scene {
         x.press(12);
         x.give(0, 400);
         Check.tell(x, 0, "debt sum*price;rent sum+1;wage sum+age;");
-        x.force(0, 1, 6);
+        x.force(0, 1, 2);
         Check.tell(x, 1, "debt sum+1;rent sum;wage sum+2;");
         x.force(1, 0, 1);
         Check.tell(x, 0, "debt sum+age+2;rent 3;wage 4;");
@@ -142,6 +143,12 @@ enum Scene {
             x.put(2, 7, 7);
             x.put(2, 18, 1);
         } else {
+            x.sheet(0, 8, 5);
+            x.put(0, 1, 1);
+            x.sheet(1, 16, 3);
+            x.put(1, 1, 1);
+            x.sheet(2, 32, 20);
+            x.put(2, 19, 1);
             x.sheet(3, 16, 4);
             x.put(3, 2, 1);
         }
@@ -149,7 +156,7 @@ enum Scene {
         x.days(3);
         x.habit(0, 0, 6);
         x.force(3, 0, 7);
-        x.force(3, 1, 3);
+        x.force(3, 1, 6);
         Check.tell(x, 2, "debt 21;rent 22;wage 23;");
         x.give(1, 900);
         x.pay(1);
@@ -162,50 +169,110 @@ enum Scene {
             Check.feedAll(x, "debt 5;rent");
             x.person(-1, 0, 0);
             x.days(31);
+        } else {
+            Check.feedAll(x, "debt 5;");
+            x.days(0);
         }
     }
 
     private static void persons(MeltingMarks x) {
-        for (int i = 0; i < 10; i++) {
+        x.person(0, 0, 1);
+        x.person(10, 1, 1);
+        x.person(20, 2, 1);
+        x.paper(0, 1, 12, 9);
+        x.paper(1, 201, 7, 9);
+        textsAndLaws(x);
+        allElse(x);
+        for (int i = 3; i < 10; i++) {
             x.person(10 * i, i, 1);
         }
+        tapeAndFindings(x);
     }
 
     private static void papers(MeltingMarks x) {
         x.person(100, 9, 1);
         x.person(100, 9, 1);
-        x.image();
+        textsAndLaws(x);
+        allElse(x);
         for (int i = 0; i < 24; i++) {
             x.paper(i % 6, 1, 5 + i, 9);
         }
         x.tear(0);
         x.pay(2);
+        tapeAndFindings(x);
     }
 
     private static void laws(MeltingMarks x) {
         x.person(100, 9, 1);
         x.person(100, 9, 1);
         x.paper(1, 1, 50, 9);
+        x.paper(0, 1, 6, 9);
         Check.tell(x, 0, "debt sum+price;rent 1;wage 2;");
+        allElse(x);
         for (int i = 0; i < 12; i++) {
             x.force(0, i % 2, 20 * i);
         }
+        tapeAndFindings(x);
     }
 
     private static void tape(MeltingMarks x) {
         x.person(100, 9, 1);
+        x.person(90, 8, 2);
+        x.paper(1, 1, 50, 9);
+        x.paper(3, 100, 6, 9);
+        textsAndLaws(x);
+        allElse(x);
         Check.feedAll(x, "debt 5;rent" + " ".repeat(146));
     }
 
-    /** One who bakes and one who hungers; no law ever. */
+    /** One who bakes and one who hungers, papers that wait. */
     private static void upTo(MeltingMarks x, int day) {
         x.person(100, 5, 1);
         x.person(100, 0, 0);
+        x.paper(0, 1, 30, 300);
+        x.paper(1, 1, 20, 300);
+        x.paper(5, 100, 9, 300);
+        textsAndLaws(x);
+        allElse(x);
         x.sheet(0, 8, 1);
         x.sheet(1, 8, 20);
+        x.put(1, 3, 1);
+        x.put(1, 19, 1);
         x.sheet(2, 8, 0);
+        x.sheet(3, 0, 0);
         for (int at = 0; at < day; at += 30) {
             x.days(Math.min(30, day - at));
         }
+        tapeAndFindings(x);
+    }
+
+    /** Both courts have the same text, from different days on. */
+    private static void textsAndLaws(MeltingMarks x) {
+        Check.tell(x, 1, "debt sum+7;rent sum+8;wage sum+9;");
+        x.force(1, 1, 0);
+        x.force(1, 0, 0);
+        Check.tell(x, 0, "debt 1;rent 2;wage 3;");
+    }
+
+    /** What an act that is refused might spoil: a state that has something, an image, sheets. */
+    private static void allElse(MeltingMarks x) {
+        x.press(5000);
+        x.image();
+        x.press(77);
+        x.sheet(0, 8, 5);
+        x.put(0, 1, 1);
+        x.put(0, 3, 2);
+        x.sheet(1, 16, 3);
+        x.put(1, 1, 1);
+        x.sheet(2, 32, 20);
+        x.put(2, 7, 7);
+        x.put(2, 19, 1);
+        x.sheet(3, 32, 2);
+    }
+
+    private static void tapeAndFindings(MeltingMarks x) {
+        Check.feedAll(x, "debt 5;rent");
+        x.person(-1, 0, 0);
+        x.days(31);
     }
 }

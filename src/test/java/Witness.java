@@ -161,8 +161,10 @@ final class Witness {
      * Makes a TAX ahead of the next day feed one more: the answer is the HUNGER of that day with a TAX.
      * OFFERED is n. 10 * n - 9 and 9 MARKS are ASKED without one, 9 * n - 8 and 9 with one: the PRICE
      * is 10 or 9, and the one with 9 MARKS can buy a loaf or not. -1, if there is no room for that.
+     * Sheets stay as the IMAGE comes back; in that there are days left.
      */
     private static int stage(MeltingMarks x, int scratch) {
+        x.restore();
         if (x.count(0) > 7 || x.count(3) > 296) {
             return -1;
         }
