@@ -44,6 +44,7 @@ public final class FindingsTest {
         copy();
         restore();
         count();
+        withoutImage();
         C.end();
     }
 
@@ -445,17 +446,61 @@ public final class FindingsTest {
     private static void unlike() {
         refused(Scene.NEW, "unlike without papers", Check.NONE, x -> x.unlike());
         refused(Scene.PAPERS, "unlike without laws", Check.NONE, x -> x.unlike());
-        refused(Scene.LAWS, "unlike by one law of both", Check.NONE, x -> {
-            x.days(20);
-            return x.unlike();
-        }, 20);
+        refusedBehind(Scene.LAWS, "unlike by one law of both", Check.NONE, x -> x.days(20), x -> x.unlike());
         allowed(Scene.RICH, "unlike", Scene.DEBT, x -> x.unlike());
     }
 
-    /** As refused, where some days go by ahead of what is refused. */
-    private static void refused(Scene scene, String call, long finding, Witness.Call of, int days) {
-        C.due(scene + ": " + call, of.on(scene.make()), finding);
-        unchanged(scene + ": " + call, Witness.after(scene, x -> x.days(days)), Witness.after(scene, of));
+    /** As refused, where something goes ahead of what is refused. */
+    private static void refusedBehind(Scene scene, String call, long finding, Witness.Call ahead, Witness.Call of) {
+        Witness.Call both = x -> {
+            ahead.on(x);
+            return of.on(x);
+        };
+        C.due(scene + ": " + call, both.on(scene.make()), finding);
+        unchanged(scene + ": " + call, Witness.after(scene, ahead), Witness.after(scene, both));
+    }
+
+    // FULL and MISSING of an object that has no IMAGE: there is none behind them.
+    private static void withoutImage() {
+        Witness.Call end = x -> {
+            for (int i = 0; i < 9; i++) {
+                x.days(30);
+            }
+            return x.days(25);
+        };
+        refusedBehind(Scene.BARE, "days", Check.FULL, end, x -> x.days(1));
+        refusedBehind(Scene.BARE, "need", Check.FULL, end, x -> x.need(1));
+        refusedBehind(Scene.BARE, "melts", Check.FULL, end, x -> x.melts(1));
+        refusedBehind(Scene.BARE, "choices", Check.FULL, end, x -> x.choices(1, 0));
+        refusedBehind(Scene.BARE, "beside", Check.FULL, end, x -> x.beside(0, 1, 1));
+        refusedBehind(Scene.BARE, "proves", Check.FULL, end, x -> x.proves(9999, 0));
+        for (int i = 0; i < 4; i++) {
+            int s = i;
+            int t = (i + 1) % 4;
+            refusedBehind(Scene.BARE, "proves", Check.MISSING, x -> x.sheet(s, 0, 0), x -> x.proves(9999, s));
+            refusedBehind(Scene.BARE, "put", Check.MISSING, x -> x.sheet(s, 0, 0), x -> x.put(s, 0, 1));
+            refusedBehind(Scene.BARE, "copy of", Check.MISSING, x -> x.sheet(s, 0, 0), x -> x.copy(s, 0, t, 0, 1));
+            refusedBehind(Scene.BARE, "copy to", Check.MISSING, x -> x.sheet(s, 0, 0), x -> x.copy(t, 0, s, 0, 1));
+        }
+        refusedBehind(Scene.BARE, "person", Check.FULL, x -> {
+            for (int i = 0; i < 5; i++) {
+                x.person(1, 2, 3);
+            }
+            return x.person(4, 5, 6);
+        }, x -> x.person(7, 8, 9));
+        refusedBehind(Scene.BARE, "paper", Check.FULL, x -> {
+            for (int i = 0; i < 12; i++) {
+                x.paper(i % 4, 103, 1 + i, 9);
+            }
+            return x.paper(5, 103, 14, 9);
+        }, x -> x.paper(1, 103, 15, 9));
+        refusedBehind(Scene.BARE, "force", Check.FULL, x -> {
+            for (int i = 0; i < 7; i++) {
+                x.force(i % 4, i % 2, 5 + i);
+            }
+            return x.force(1, 1, 12);
+        }, x -> x.force(2, 0, 5));
+        refusedBehind(Scene.BARE, "feed", Check.FULL, x -> Check.feedAll(x, " ".repeat(146)), x -> x.feed(8, 32));
     }
 
     // Promise 18. "n (1 to 30)"; "BEYOND. FULL: THE DAY would be above 300."
