@@ -17,7 +17,7 @@ final class Check {
         this.name = name;
     }
 
-    void due(String call, long got, long want) {
+    synchronized void due(String call, long got, long want) {
         asked++;
         if (got != want) {
             wrong++;

@@ -1,4 +1,5 @@
 import java.util.Random;
+import java.util.stream.IntStream;
 
 /** Runs of calls by a number of seeds, each call's answer beside the Model's. */
 public final class RandomRunsTest {
@@ -21,9 +22,8 @@ public final class RandomRunsTest {
     }
 
     public static void main(String[] args) {
-        for (int seed = 0; seed < RUNS; seed++) {
-            new RandomRunsTest(seed).run();
-        }
+        // Each run has objects of its own, so they may go side by side: the Model is slow.
+        IntStream.range(0, RUNS).parallel().forEach(seed -> new RandomRunsTest(seed).run());
         C.end();
     }
 
